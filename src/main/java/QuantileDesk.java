@@ -54,7 +54,7 @@ public final class QuantileDesk {
             throws IndexOutOfBoundsException, IllegalArgumentException, UnsupportedOperationException {
         Sketch taker = sketchAt(to);
         Sketch giver = sketchAt(from);
-        if (taker == giver || !taker.fits(giver)) {
+        if (to == from || !taker.fits(giver)) {
             throw new IllegalArgumentException();
         }
         refuseAbove(taker.count + giver.count);

@@ -1,54 +1,10 @@
-import java.util.function.IntSupplier;
-
 /** Each promise with answers worked out by hand from the document. */
-public final class PromiseTest {
-    private static final int LEAST = Integer.MIN_VALUE;
-    private static final int GREATEST = Integer.MAX_VALUE;
-
+public final class PromiseTest extends Answers {
     /** Seed 0 has x = 12345 at its first coin, so its second one is bit 16 of this. */
     private static final int SECOND_COIN = (1103515245 * 12345 + 12345) >>> 16 & 1;
 
-    private static String promise;
-
-    private static void due(int want, int got) {
-        Check.due(promise, want, got);
-    }
-
-    private static void noSuch(IntSupplier call) {
-        Check.dueThrow(promise, IndexOutOfBoundsException.class, call);
-    }
-
-    private static void illegal(IntSupplier call) {
-        Check.dueThrow(promise, IllegalArgumentException.class, call);
-    }
-
-    private static void full(IntSupplier call) {
-        Check.dueThrow(promise, UnsupportedOperationException.class, call);
-    }
-
-    private static void addAll(QuantileDesk d, int s, int... values) {
-        for (int v : values) {
-            d.add(s, v);
-        }
-    }
-
-    /** What is kept, by item: each a value, its gap or level, and its slack. */
-    private static void keeps(QuantileDesk d, int s, int... parts) {
-        due(parts.length / 3, d.told(s, 3));
-        for (int i = 0; i < parts.length; i++) {
-            due(parts[i], d.item(s, i / 3, i % 3));
-        }
-        illegal(() -> d.item(s, parts.length / 3, 0));
-    }
-
-    private static void tells(QuantileDesk d, int s, int... want) {
-        for (int what = 0; what < want.length; what++) {
-            due(want[what], d.told(s, what));
-        }
-    }
-
     private static void newObject() {
-        promise = "1: a new object";
+        sentence = "1: a new object";
         QuantileDesk d = new QuantileDesk();
         due(0, d.sketches());
         due(0, d.astray());
@@ -57,7 +13,7 @@ public final class PromiseTest {
     }
 
     private static void make() {
-        promise = "2: make";
+        sentence = "2: make";
         QuantileDesk d = new QuantileDesk();
         illegal(() -> d.make(-1, 5, 1));
         illegal(() -> d.make(3, 5, 1));
@@ -89,7 +45,7 @@ public final class PromiseTest {
     }
 
     private static void add() {
-        promise = "3: add";
+        sentence = "3: add";
         QuantileDesk all = new QuantileDesk();
         all.make(0, 1, 1);
         due(1, all.add(0, 7));
@@ -131,7 +87,7 @@ public final class PromiseTest {
     }
 
     private static void addToLevels() {
-        promise = "3: add to levels";
+        sentence = "3: add to levels";
         QuantileDesk d = new QuantileDesk();
         // seed 0 has the coin 0 first, seed 3 the coin 1
         d.make(2, 2, 0);
@@ -157,7 +113,7 @@ public final class PromiseTest {
     }
 
     private static void run() {
-        promise = "4: run";
+        sentence = "4: run";
         QuantileDesk d = new QuantileDesk();
         d.make(0, 1, 1);
         due(3, d.run(0, GREATEST - 1, 1, 3));
@@ -198,7 +154,7 @@ public final class PromiseTest {
     }
 
     private static void merge() {
-        promise = "5: merge";
+        sentence = "5: merge";
         QuantileDesk d = new QuantileDesk();
         d.make(0, 1, 1);
         d.make(0, 9, 2);
@@ -281,7 +237,7 @@ public final class PromiseTest {
     }
 
     private static void rank() {
-        promise = "6: rank";
+        sentence = "6: rank";
         QuantileDesk d = boundsOfSix();
         addAll(d, 0, 4, 6);
         // lows 1, 3, 4, 6; highs 1, 3, 5, 6; values 3, 4, 4, 6
@@ -316,7 +272,7 @@ public final class PromiseTest {
     }
 
     private static void value() {
-        promise = "7: value";
+        sentence = "7: value";
         QuantileDesk d = boundsOfSix();
         addAll(d, 0, 4, 6);
         int[] bounds = {3, 3, 4, 4, 4, 6};
@@ -348,7 +304,7 @@ public final class PromiseTest {
     }
 
     private static void bound() {
-        promise = "8: bound";
+        sentence = "8: bound";
         QuantileDesk d = boundsOfSix();
         addAll(d, 0, 4, 6);
         // OFF is 2
@@ -382,7 +338,7 @@ public final class PromiseTest {
     }
 
     private static void told() {
-        promise = "9: told";
+        sentence = "9: told";
         QuantileDesk d = boundsOfSix();
         addAll(d, 0, 4);
         tells(d, 0, 1, 2, 5, 5, 2, 0, 2);
@@ -407,7 +363,7 @@ public final class PromiseTest {
     }
 
     private static void item() {
-        promise = "10: item";
+        sentence = "10: item";
         QuantileDesk d = boundsOfSix();
         d.make(0, 1, 1);
         d.make(2, 2, 0);
@@ -431,7 +387,7 @@ public final class PromiseTest {
     }
 
     private static void clear() {
-        promise = "11: clear";
+        sentence = "11: clear";
         QuantileDesk d = new QuantileDesk();
         for (int kind = 0; kind < 3; kind++) {
             int s = d.make(kind, 3, 12345);
@@ -461,7 +417,7 @@ public final class PromiseTest {
     }
 
     private static void sketches() {
-        promise = "12: sketches";
+        sentence = "12: sketches";
         QuantileDesk d = new QuantileDesk();
         for (int i = 0; i < 6; i++) {
             due(i, d.sketches());
@@ -475,7 +431,7 @@ public final class PromiseTest {
     }
 
     private static void astray() {
-        promise = "13: astray";
+        sentence = "13: astray";
         QuantileDesk d = new QuantileDesk();
         due(0, d.astray());
         for (int s = 0; s < 6; s++) {
