@@ -1,7 +1,7 @@
 import com.sun.management.ThreadMXBean;
 import java.lang.management.ManagementFactory;
 
-/** What 512 calls take of the room that all calls of a run share: rows come with make, and no call makes more. */
+/** What some 500 calls take of the room that all calls of a run share: rows come with make, and no call makes more. */
 public final class RoomTest extends Answers {
     /** Six sketches of three rows of 4000 ints at most, and little besides. */
     private static final long MOST_BYTES = 6 * 3 * 4 * 4000 + 50_000;
@@ -33,7 +33,7 @@ public final class RoomTest extends Answers {
     }
 
     public static void main(String[] args) {
-        edge("room of 512 calls", RoomTest::takesLittleRoom);
+        edge("room of 500 calls", RoomTest::takesLittleRoom);
         Check.end();
     }
 }
